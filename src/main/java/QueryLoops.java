@@ -308,15 +308,16 @@ public final class QueryLoops {
 
         private int readToken(int at, Tokens tokens) {
             char c = codeAt(at);
+            int code = c;
             if (isSmall(c)) {
                 int end = endOfWord(at);
-                tokens.add(end == at + 1 ? c : wordKind(at, end), at, 0);
+                tokens.add(end == at + 1 ? code : wordKind(at, end), at, 0);
                 return end;
             }
             if (c == '-' || isDigit(c)) {
                 return readNumeral(at, tokens);
             }
-            tokens.add(isCapital(c) || isSign(c) ? c : BAD, at, 0);
+            tokens.add(isCapital(c) || isSign(c) ? code : BAD, at, 0);
             return at + 1;
         }
 
@@ -418,11 +419,11 @@ public final class QueryLoops {
         }
 
         int nextPlace() {
-            return get(places, next);
+            return next >= 0 && next < count && next < places.length ? places[next] : 0;
         }
 
         int nextNumber() {
-            return get(numbers, next);
+            return next >= 0 && next < count && next < numbers.length ? numbers[next] : 0;
         }
 
         void advance() {
@@ -462,17 +463,11 @@ public final class QueryLoops {
             return count;
         }
 
-        int addConstant(int number, boolean unknown) {
-            return add(NONE, NONE, NONE, NONE, number, unknown);
-        }
-
-        /** lastItem: the last item that the column may be of, where it stands. */
+        /**
+         * lastItem: the last item that the column may be of, where it stands. Every operand has a
+         * character of its own in the text, so there is always room.
+         */
         int addColumn(int at, int alias, int letter, int lastItem) {
-            return add(at, alias, letter, lastItem, 0, true);
-        }
-
-        // Every operand has a character of its own in the text, so there is always room.
-        private int add(int at, int alias, int letter, int lastItem, int number, boolean unknown) {
             if (count < 0 || count >= MOST_CHARACTERS) {
                 return NONE;
             }
@@ -481,10 +476,19 @@ public final class QueryLoops {
             letters[count] = letter;
             lastItems[count] = lastItem;
             items[count] = NONE;
-            numbers[count] = number;
-            unknowns[count] = unknown;
+            numbers[count] = 0;
+            unknowns[count] = true;
             count++;
             return count - 1;
+        }
+
+        int addConstant(int number, boolean unknown) {
+            int i = addColumn(NONE, NONE, NONE, NONE);
+            if (i >= 0 && i < MOST_CHARACTERS) {
+                numbers[i] = number;
+                unknowns[i] = unknown;
+            }
+            return i;
         }
 
         boolean isColumn(int i) {
@@ -522,7 +526,7 @@ public final class QueryLoops {
         }
 
         int numberOf(int i) {
-            return get(numbers, i);
+            return i >= 0 && i < MOST_CHARACTERS ? numbers[i] : 0;
         }
 
         boolean unknownOf(int i) {
@@ -1035,9 +1039,10 @@ public final class QueryLoops {
                 return NONE;
             }
             tokens.advance();
-            if (!tokens.take('.')) {
+            if (tokens.nextKind() != '.') {
                 return NONE;
             }
+            tokens.advance();
             int letter = tokens.nextKind() - 'a';
             if (letter < 0 || letter >= MOST_COLUMNS) {
                 return NONE;

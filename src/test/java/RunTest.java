@@ -121,6 +121,7 @@ public final class RunTest {
         CHECKS.due("or with or", Checks.query(x, 1, asked + "x.a=1 or x.a=3 or y.a=7"), "10;10 @6");
         CHECKS.due("or and not", Checks.query(x, 1, asked + "not x.a=2 and not (y.a=2 or y.a=3)"), "10 @4");
         CHECKS.due("not is a part", Checks.query(x, 1, asked + "not (x.a=2 or y.a=2)"), "10 @6");
+        CHECKS.due("the right operand", Checks.query(x, 1, asked + "x.a=y.a and 1<y.b"), "10;20 @6");
         CHECKS.due("both operands", Checks.query(x, 1, asked + "y.a=x.a and 1=2"), " @2");
         CHECKS.due("of item 3", Checks.query(x, 1,
                 "select x.b from T x join U y on 1=1 join V z on 1=1 where x.a=1 and z.a=1 and y.a=2"), "10 @5");

@@ -71,6 +71,8 @@ public final class TextTest {
         Checks.text(x, "select");
         CHECKS.due("place is of the latest compile", x.place(), 0);
         CHECKS.due("the text goes on", Checks.compile(x, " x.a from U x join V y on x.b = y.b"), "2");
+        CHECKS.due("ill in an item's condition", Checks.compile(x, "select x.a from T x join U y on"), "ill 31");
+        CHECKS.due("nothing of it stays", Checks.compile(x, "select z.a from T x join U y on 1=1 join V z on 1=1"), "3");
         Checks.text(x, "!");
         CHECKS.due("the query stays while a text is asked", Checks.run(x), "0");
         CHECKS.due("no place", x.place(), -1);
@@ -129,6 +131,8 @@ public final class TextTest {
         ill("select x.#A from T x");
         ill("select count#(x.a) from T x");
         ill("select sum #x.a from T x");
+        ill("select sum #x.a) from T x");
+        ill("select max#, count from T x");
         ill("select sum(#count) from T x");
         ill("select sum(x.a#, x.b) from T x");
         ill("select max(x.a #from T x");
@@ -167,6 +171,13 @@ public final class TextTest {
         ill("select x.a from T x where x.a = 1 or #or x.a = 1");
         ill("select x.a from T x where x.a = 1 and #and x.a = 1");
         ill("select x.a from T x where not#");
+        ill("select x.a from T x where not #group x.a");
+        ill("select x.a from T x where x.a = 1 or #group x.a");
+        ill("select x.a from T x where x.a = 1 and #group x.a");
+        ill("select x.a from T x join U y on x.a = 1 or #where x.a = 1");
+        ill("select x.a from T x join U y on x.a = 1 and #where x.a = 1");
+        ill("select x.a from T x where (x.a = 1 or #) group x.a");
+        ill("select x.a from T x where (x.a = 1 and #) group x.a");
         ill("select x.a from T x where x.a = 1 #where x.a = 1");
         ill("select x.a from T x where x.a = 1 #join U y on 1=1");
         ill("select x.a from T x group#");
