@@ -16,6 +16,20 @@ final class Checks {
         }
     }
 
+    /** The text is right and has so many items. */
+    void right(QueryLoops x, int items, String text) {
+        due(text, compile(x, text), "" + items);
+        due("place behind " + text, x.place(), QueryLoops.NONE);
+    }
+
+    /** The mark # stands at the place where the text is ill, and isn't part of it. */
+    void ill(QueryLoops x, String marked) {
+        String text = marked.replace("#", "");
+        due(text, compile(x, text), "ill " + marked.indexOf('#'));
+        due("run behind " + text, run(x), "throws.IllegalStateException");
+        due("rows behind " + text, x.rows(), 0);
+    }
+
     void end() {
         System.out.println(name + ": " + done + " checks, " + wrong + " wrong");
         if (wrong != 0) {

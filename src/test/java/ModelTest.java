@@ -3,8 +3,13 @@ import java.util.Random;
 /** All promises: made-up runs of calls, the same in every test, on an object and on the model. */
 public final class ModelTest {
     private static final Checks CHECKS = new Checks("ModelTest");
-    private static final int RUNS = 6000;
+    private static final int RUNS = 15000;
     private static final int MOST_CALLS = 512;
+    // How many values of a result are asked for behind each call that may change it.
+    private static final int CELLS = 12;
+    // A few characters more than a text takes.
+    private static final int MOST_ASKED = 135;
+    private static final int MOST_OF_AN_ACT = MOST_ASKED + 4 + 2 * CELLS;
 
     private final Random random;
     private final QueryLoops x = new QueryLoops();
@@ -39,9 +44,10 @@ public final class ModelTest {
                 fill(table, small ? random.nextInt(3) : random.nextInt(7));
             }
         }
-        while (calls < MOST_CALLS) {
+        while (calls + MOST_OF_AN_ACT <= MOST_CALLS) {
             act(random.nextInt(12));
         }
+        CHECKS.due("calls in all", calls <= MOST_CALLS, true);
     }
 
     private void act(int what) {
@@ -121,7 +127,7 @@ public final class ModelTest {
 
     private void ask(String text) {
         told.append(" ask \"" + text + "\"");
-        for (int i = 0; i < text.length(); i++) {
+        for (int i = 0; i < text.length() && i < MOST_ASKED; i++) {
             due("ask", x.ask(text.charAt(i)), m.ask(text.charAt(i)));
         }
     }
@@ -145,23 +151,20 @@ public final class ModelTest {
         due("run", got, m.run());
         ran += got.equals("throws.IllegalStateException") ? 0 : 1;
         stopped += got.equals("throws.UnsupportedOperationException") ? 1 : 0;
-        filled += x.rows() > 0 ? 1 : 0;
+        filled += m.rows() > 0 ? 1 : 0;
         compare();
     }
 
-    /** These calls change nothing, so they don't count against the calls of an object here. */
     private void compare() {
         due("place", x.place(), m.place());
         due("looked", x.looked(), m.looked());
         due("rows", x.rows(), m.rows());
-        StringBuilder got = new StringBuilder();
-        StringBuilder want = new StringBuilder();
-        for (int r = -1; r <= 31; r++) {
-            for (int k = -1; k <= 5; k++) {
-                got.append(x.isNull(r, k)).append(x.result(r, k)).append(' ');
-                want.append(m.isNull(r, k)).append(m.result(r, k)).append(' ');
-            }
+        for (int n = 0; n < (m.rows() == 0 ? 2 : CELLS); n++) {
+            boolean inside = n % 4 > 0;
+            int r = random.nextInt(m.rows() + (inside ? 1 : 3)) - (inside ? 0 : 1);
+            int k = random.nextInt(inside ? 4 : 7) - (inside ? 0 : 1);
+            due("isNull(" + r + ", " + k + ")", x.isNull(r, k), m.isNull(r, k));
+            due("result(" + r + ", " + k + ")", x.result(r, k), m.result(r, k));
         }
-        due("result", got.toString(), want.toString());
     }
 }

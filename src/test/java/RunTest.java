@@ -81,52 +81,60 @@ public final class RunTest {
         CHECKS.due("an empty one first", Checks.query(x, 1, "select x.a from V x left U y on 1=1"), " @0");
     }
 
-    private static void leftItems() {
+    private static QueryLoops leftTables() {
         QueryLoops x = object();
         Checks.put(x, 0, 1, 10);
         Checks.put(x, 0, 2, 20);
         Checks.put(x, 1, 2, 200);
         Checks.put(x, 1, 2, null);
-        CHECKS.due("left", Checks.query(x, 3, "select x.b, y.a, y.b from T x left U y on x.a=y.a"),
+        return x;
+    }
+
+    private static void leftItems() {
+        CHECKS.due("left", Checks.query(leftTables(), 3, "select x.b, y.a, y.b from T x left U y on x.a=y.a"),
                 "10 ? ?;20 2 200;20 2 ? @6");
-        CHECKS.due("fitted, but not passed", Checks.query(x, 1, "select x.b from T x left U y on x.a=y.a where y.b>200"), " @6");
-        CHECKS.due("the NULL row by where", Checks.query(x, 2, "select x.b, y.a from T x left U y on x.a=y.a where y.b is null"),
+        CHECKS.due("fitted, but not passed", Checks.query(leftTables(), 1, "select x.b from T x left U y on x.a=y.a where y.b>200"), " @6");
+        CHECKS.due("the NULL row by where", Checks.query(leftTables(), 2, "select x.b, y.a from T x left U y on x.a=y.a where y.b is null"),
                 "10 ?;20 2 @6");
-        CHECKS.due("only the NULL row", Checks.query(x, 1, "select x.b from T x left U y on x.a=y.a where y.a is null"), "10 @6");
-        CHECKS.due("left of an empty one", Checks.query(x, 2, "select x.b, z.a from T x left V z on 1=1"), "10 ?;20 ? @2");
-        CHECKS.due("a NULL row goes on", Checks.query(x, 2,
+        CHECKS.due("only the NULL row", Checks.query(leftTables(), 1, "select x.b from T x left U y on x.a=y.a where y.a is null"), "10 @6");
+        CHECKS.due("left of an empty one", Checks.query(leftTables(), 2, "select x.b, z.a from T x left V z on 1=1"), "10 ?;20 ? @2");
+        CHECKS.due("a NULL row goes on", Checks.query(leftTables(), 2,
                 "select x.b, w.b from T x left U y on x.a=y.a left T w on y.a is null"), "10 10;10 20;20 ?;20 ? @12");
-        CHECKS.due("an unknown fits nothing", Checks.query(x, 2,
+        CHECKS.due("an unknown fits nothing", Checks.query(leftTables(), 2,
                 "select x.b, w.b from T x left U y on x.a=y.a join T w on y.b=w.b or null=w.a"), " @12");
     }
 
-    private static void parts() {
+    private static QueryLoops partTables() {
         QueryLoops x = object();
         Checks.put(x, 0, 1, 10);
         Checks.put(x, 0, 2, 20);
         Checks.put(x, 1, 1, 5);
         Checks.put(x, 1, 2, 6);
         Checks.put(x, 2, 1);
+        return x;
+    }
+
+    private static void parts() {
         String asked = "select x.b from T x join U y on 1=1 where ";
-        CHECKS.due("of item 1", Checks.query(x, 1, asked + "x.a=1"), "10;10 @4");
-        CHECKS.due("no column", Checks.query(x, 1, asked + "1=2"), " @2");
-        CHECKS.due("null has no column", Checks.query(x, 1, asked + "null is null"), "10;10;20;20 @6");
-        CHECKS.due("of item 2", Checks.query(x, 1, asked + "y.a=1"), "10;20 @6");
-        CHECKS.due("of both", Checks.query(x, 1, asked + "x.a=1 and y.a=1"), "10 @4");
-        CHECKS.due("the other order", Checks.query(x, 1, asked + "y.a=1 and x.a=1"), "10 @4");
-        CHECKS.due("one in parentheses", Checks.query(x, 1, asked + "(x.a=1 and y.a=1)"), "10 @6");
-        CHECKS.due("two in parentheses", Checks.query(x, 1, asked + "(x.a=1) and (y.a=1)"), "10 @4");
-        CHECKS.due("or is one part", Checks.query(x, 1, asked + "x.a=1 and y.a=1 or x.a=3 and y.a=3"), "10 @6");
-        CHECKS.due("or of item 1 alone", Checks.query(x, 1, asked + "x.a=1 or x.a=3"), "10;10 @4");
-        CHECKS.due("or with or", Checks.query(x, 1, asked + "x.a=1 or x.a=3 or y.a=7"), "10;10 @6");
-        CHECKS.due("or and not", Checks.query(x, 1, asked + "not x.a=2 and not (y.a=2 or y.a=3)"), "10 @4");
-        CHECKS.due("not is a part", Checks.query(x, 1, asked + "not (x.a=2 or y.a=2)"), "10 @6");
-        CHECKS.due("the right operand", Checks.query(x, 1, asked + "x.a=y.a and 1<y.b"), "10;20 @6");
-        CHECKS.due("both operands", Checks.query(x, 1, asked + "y.a=x.a and 1=2"), " @2");
-        CHECKS.due("of item 3", Checks.query(x, 1,
+        CHECKS.due("of item 1", Checks.query(partTables(), 1, asked + "x.a=1"), "10;10 @4");
+        CHECKS.due("no column", Checks.query(partTables(), 1, asked + "1=2"), " @2");
+        CHECKS.due("null has no column", Checks.query(partTables(), 1, asked + "null is null"), "10;10;20;20 @6");
+        CHECKS.due("of item 2", Checks.query(partTables(), 1, asked + "y.a=1"), "10;20 @6");
+        CHECKS.due("of both", Checks.query(partTables(), 1, asked + "x.a=1 and y.a=1"), "10 @4");
+        CHECKS.due("the other order", Checks.query(partTables(), 1, asked + "y.a=1 and x.a=1"), "10 @4");
+        CHECKS.due("one in parentheses", Checks.query(partTables(), 1, asked + "(x.a=1 and y.a=1)"), "10 @6");
+        CHECKS.due("two in parentheses", Checks.query(partTables(), 1, asked + "(x.a=1) and (y.a=1)"), "10 @4");
+        CHECKS.due("or is one part", Checks.query(partTables(), 1, asked + "x.a=1 and y.a=1 or x.a=3 and y.a=3"), "10 @6");
+        CHECKS.due("or of item 1 alone", Checks.query(partTables(), 1, asked + "x.a=1 or x.a=3"), "10;10 @4");
+        CHECKS.due("or with or", Checks.query(partTables(), 1, asked + "x.a=1 or x.a=3 or y.a=7"), "10;10 @6");
+        CHECKS.due("or and not", Checks.query(partTables(), 1, asked + "not x.a=2 and not (y.a=2 or y.a=3)"), "10 @4");
+        CHECKS.due("not is a part", Checks.query(partTables(), 1, asked + "not (x.a=2 or y.a=2)"), "10 @6");
+        CHECKS.due("the right operand", Checks.query(partTables(), 1, asked + "x.a=y.a and 1<y.b"), "10;20 @6");
+        CHECKS.due("both operands", Checks.query(partTables(), 1, asked + "y.a=x.a and 1=2"), " @2");
+        CHECKS.due("of item 3", Checks.query(partTables(), 1,
                 "select x.b from T x join U y on 1=1 join V z on 1=1 where x.a=1 and z.a=1 and y.a=2"), "10 @5");
-        CHECKS.due("is null has a column", Checks.query(x, 1, asked + "y.a is null and x.a=1"), " @4");
-        CHECKS.due("an item's or", Checks.query(x, 2, "select x.a, y.a from T x join U y on x.a=y.a or x.a>1 and y.a<2"),
+        CHECKS.due("is null has a column", Checks.query(partTables(), 1, asked + "y.a is null and x.a=1"), " @4");
+        CHECKS.due("an item's or", Checks.query(partTables(), 2, "select x.a, y.a from T x join U y on x.a=y.a or x.a>1 and y.a<2"),
                 "1 1;2 1;2 2 @6");
     }
 
@@ -145,9 +153,8 @@ public final class RunTest {
         CHECKS.due("result of NULL", x.result(2, 1), 0L);
     }
 
-    private static void groups() {
+    private static QueryLoops groupTables() {
         QueryLoops x = object();
-        CHECKS.due("no groups", Checks.query(x, 2, "select x.a, count from T x group x.a"), " @0");
         Checks.put(x, 0, 2, 5);
         Checks.put(x, 0, null, 1);
         Checks.put(x, 0, 1, null);
@@ -155,18 +162,23 @@ public final class RunTest {
         Checks.put(x, 0, null, null);
         Checks.put(x, 0, 0, 3);
         Checks.put(x, 0, 2, null);
-        CHECKS.due("all kinds", Checks.query(x, 4, "select x.a, count, sum(x.b), min(x.b) from T x group x.a"),
-                "2 3 -2 -7;? 2 1 1;1 1 ? ?;0 1 3 3 @7");
-        CHECKS.due("max", Checks.query(x, 2, "select max(x.b), max(x.a) from T x group x.a"), "5 2;1 ?;? 1;3 0 @7");
-        CHECKS.due("without a count", Checks.query(x, 1, "select x.a from T x group x.a"), "2;?;1;0 @7");
-        CHECKS.due("a column not out", Checks.query(x, 1, "select count from T x group x.a"), "3;2;1;1 @7");
-        CHECKS.due("by two", Checks.query(x, 3, "select x.b, x.a, count from T x group x.a, x.b"),
-                "5 2 1;1 ? 1;? 1 1;-7 2 1;? ? 1;3 0 1;? 2 1 @7");
-        CHECKS.due("by the same twice", Checks.query(x, 2, "select count, x.a from T x group x.a, x.a"), "3 2;2 ?;1 1;1 0 @7");
         Checks.put(x, 2, 2);
-        CHECKS.due("of a left item", Checks.query(x, 3, "select z.a, count, sum(x.b) from T x left V z on z.a=x.a group z.a"),
+        return x;
+    }
+
+    private static void groups() {
+        CHECKS.due("no groups", Checks.query(object(), 2, "select x.a, count from T x group x.a"), " @0");
+        CHECKS.due("all kinds", Checks.query(groupTables(), 4, "select x.a, count, sum(x.b), min(x.b) from T x group x.a"),
+                "2 3 -2 -7;? 2 1 1;1 1 ? ?;0 1 3 3 @7");
+        CHECKS.due("max", Checks.query(groupTables(), 2, "select max(x.b), max(x.a) from T x group x.a"), "5 2;1 ?;? 1;3 0 @7");
+        CHECKS.due("without a count", Checks.query(groupTables(), 1, "select x.a from T x group x.a"), "2;?;1;0 @7");
+        CHECKS.due("a column not out", Checks.query(groupTables(), 1, "select count from T x group x.a"), "3;2;1;1 @7");
+        CHECKS.due("by two", Checks.query(groupTables(), 3, "select x.b, x.a, count from T x group x.a, x.b"),
+                "5 2 1;1 ? 1;? 1 1;-7 2 1;? ? 1;3 0 1;? 2 1 @7");
+        CHECKS.due("by the same twice", Checks.query(groupTables(), 2, "select count, x.a from T x group x.a, x.a"), "3 2;2 ?;1 1;1 0 @7");
+        CHECKS.due("of a left item", Checks.query(groupTables(), 3, "select z.a, count, sum(x.b) from T x left V z on z.a=x.a group z.a"),
                 "2 3 -2;? 4 4 @14");
-        CHECKS.due("by three", Checks.query(x, 4,
+        CHECKS.due("by three", Checks.query(groupTables(), 4,
                 "select x.a, z.a, x.b, count from T x join V z on x.a=2 where x.b is null group z.a, x.b, x.a"), "2 2 ? 1 @10");
     }
 
@@ -185,14 +197,19 @@ public final class RunTest {
         CHECKS.due("many found, one row", Checks.query(x, 1, "select count from T x join T y on 1=1 join T z on 1=1"), "64 @84");
     }
 
-    private static void stops() {
+    private static QueryLoops stopTables(int rows) {
         QueryLoops x = object();
         for (int n = 0; n < 10; n++) {
             Checks.put(x, 0, n, n % 3);
         }
-        for (int n = 0; n < 3; n++) {
+        for (int n = 0; n < rows; n++) {
             Checks.put(x, 1, n, n);
         }
+        return x;
+    }
+
+    private static void stops() {
+        QueryLoops x = stopTables(3);
         CHECKS.due("30 rows", Checks.query(x, 1, "select count from T x join U y on 1=1 group x.a, y.a").length(), 63);
         CHECKS.due("30 rows", x.rows(), 30);
         Checks.put(x, 1, 3, 3);
@@ -204,11 +221,10 @@ public final class RunTest {
         CHECKS.due("with a row less", Checks.run(x), "30");
         CHECKS.due("looked", x.looked(), 40);
         CHECKS.due("value", x.result(29, 0), 9L);
-        Checks.put(x, 1, 4, 4);
-        CHECKS.due("31 groups", Checks.query(x, 1, "select count from T x join U y on 1=1 group x.a, y.a"), STOPS + " @39");
-        CHECKS.due("3 groups of 40", Checks.query(x, 2, "select x.b, count from T x join U y on 1=1 group x.b"),
+        CHECKS.due("31 groups", Checks.query(stopTables(4), 1, "select count from T x join U y on 1=1 group x.a, y.a"), STOPS + " @39");
+        CHECKS.due("3 groups of 40", Checks.query(stopTables(4), 2, "select x.b, count from T x join U y on 1=1 group x.b"),
                 "0 16;1 12;2 12 @50");
-        CHECKS.due("the largest", Checks.query(x, 1, "select count from T x join T y on 1=1 join T z on 1=1"), "1000 @1110");
+        CHECKS.due("the largest", Checks.query(stopTables(0), 1, "select count from T x join T y on 1=1 join T z on 1=1"), "1000 @1110");
     }
 
     private static void looked() {

@@ -23,13 +23,11 @@ public final class TextTest {
     }
 
     private static void right(int items, String text) {
-        CHECKS.due(text, Checks.compile(tables(), text), "" + items);
+        CHECKS.right(tables(), items, text);
     }
 
-    /** The mark # stands at the place where the text is ill, and isn't part of it. */
     private static void ill(String marked) {
-        String text = marked.replace("#", "");
-        CHECKS.due(text, Checks.compile(tables(), text), "ill " + marked.indexOf('#'));
+        CHECKS.ill(tables(), marked);
     }
 
     private static void ask() {
