@@ -11,6 +11,7 @@ public final class FaceTest {
 
     public static void main(String[] args) {
         face();
+        none();
         newObject();
         CHECKS.end();
     }
@@ -48,10 +49,24 @@ public final class FaceTest {
                 "public int rows()",
                 "public boolean isNull(int,int)",
                 "public long result(int,int)")));
+        CHECKS.due("above it", c.getSuperclass(), Object.class);
+        CHECKS.due("interfaces", c.getInterfaces().length, 0);
+        CHECKS.due("package", c.getPackageName(), "");
         for (Class<?> inside : c.getDeclaredClasses()) {
             CHECKS.due(inside + " static", Modifier.isStatic(inside.getModifiers()), true);
+            CHECKS.due(inside + " private", Modifier.isPrivate(inside.getModifiers()), true);
         }
+        for (Field f : c.getDeclaredFields()) {
+            CHECKS.due(f + " final or no static", Modifier.isFinal(f.getModifiers())
+                    || !Modifier.isStatic(f.getModifiers()), true);
+        }
+    }
+
+    // Terms "The constants: NONE = -1": the same where it is answered
+    private static void none() {
         CHECKS.due("NONE", QueryLoops.NONE, -1);
+        CHECKS.due("place", new QueryLoops().place(), QueryLoops.NONE);
+        CHECKS.due("drop", new QueryLoops().drop(0), QueryLoops.NONE);
     }
 
     private static void newObject() {

@@ -138,8 +138,8 @@ public final class ModelTest {
         try {
             got = "" + x.compile();
             compiled++;
-        } catch (IllegalArgumentException e) {
-            got = "throws.IllegalArgumentException";
+        } catch (RuntimeException e) {
+            got = Checks.thrown(e);
         }
         due("compile", got, m.compile());
         compare();

@@ -152,6 +152,7 @@ public final class SyntaxBoundsTest {
             String text = before + " " + token;
             int at = before.length() + 1;
             String answer = Checks.compile(tables(), text);
+            CHECKS.due("'" + text + "' answers " + answer, answer.matches("[1-3]|ill [0-9]+"), true);
             // What may stand there is ill somewhere else or nowhere: the text goes on too short, or a column isn't there.
             CHECKS.due("'" + text + "' ill at its last token", answer.equals("ill " + at), !may.contains(token));
             if (may.contains(token) && answer.startsWith("ill")) {
