@@ -61,7 +61,7 @@ public final class ReadmeTest {
     }
 
     private static List<String> ran(String source) throws Exception {
-        Path folder = Files.createTempDirectory("readme");
+        Path folder = Files.createDirectories(Path.of("build", "readme"));
         Path file = folder.resolve("ReadmeExample.java");
         Files.writeString(file, source);
         JavaCompiler compiler = ToolProvider.getSystemJavaCompiler();
@@ -74,12 +74,6 @@ public final class ReadmeTest {
                 loader.loadClass("ReadmeExample").getMethod("go", List.class).invoke(null, told);
             }
         }
-        try (Stream<Path> files = Files.list(folder)) {
-            for (Path made : files.toList()) {
-                Files.delete(made);
-            }
-        }
-        Files.delete(folder);
         return told;
     }
 
